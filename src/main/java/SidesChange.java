@@ -39,7 +39,6 @@ public final class SidesChange {
     private final boolean[] imageKept;
     /** What is only tried out is tried here: no call needs to make a court of its own. */
     private final Court trial;
-    private final Text text;
     private final Clerk clerk;
     private final int[] refusals;
     private long above;
@@ -53,8 +52,7 @@ public final class SidesChange {
         }
         imageKept = new boolean[IMAGES];
         trial = new Court();
-        text = new Text();
-        clerk = new Clerk(text, trial);
+        clerk = new Clerk();
         refusals = new int[3];
         above = 0;
         below = 1;
@@ -98,26 +96,26 @@ public final class SidesChange {
         if (!within(0, c, BYTE_MOST)) {
             return refuseAsBad(BAD);
         }
-        if (text.length >= TEXT_MOST) {
+        if (clerk.text.length >= TEXT_MOST) {
             return refuseAsFull();
         }
-        text.append(c);
-        return text.length;
+        clerk.text.append(c);
+        return clerk.text.length;
     }
 
     public int clear() {
-        int had = text.length;
-        text.length = 0;
+        int had = clerk.text.length;
+        clerk.text.length = 0;
         return had;
     }
 
     public int read() {
         int items = clerk.readAll();
         if (items == NONE) {
-            return FAULT_BASE - text.start;
+            return FAULT_BASE - clerk.text.start;
         }
         brief.begin(0, 0);
-        brief.court.copy(trial);
+        brief.court.copy(clerk.court);
         return items;
     }
 
@@ -212,7 +210,7 @@ public final class SidesChange {
         }
         trial.copy(brief.court);
         if (what == 0) {
-            return BestPlay.worth(trial);
+            return BestPlay.worth(trial, -BestPlay.BEYOND, BestPlay.BEYOND, 0);
         }
         return what == 1 ? BestPlay.whetherToBow(trial) : BestPlay.whatToSay(trial);
     }
@@ -341,7 +339,7 @@ public final class SidesChange {
             return refuseAsBad(BAD_OFFER);
         }
         trial.copy(brief.court);
-        int worth = BestPlay.worth(trial);
+        int worth = BestPlay.worth(trial, -BestPlay.BEYOND, BestPlay.BEYOND, 0);
         int found = 0;
         for (int pair = 0; pair < OFFERS * OFFERS; pair++) {
             if (Peace.rests(pair / OFFERS, pair % OFFERS, worth)) {
@@ -435,7 +433,7 @@ public final class SidesChange {
             case 4: return brief.noteCount;
             case 5: return brief.markCount;
             case 6: return brief.pasts;
-            case 7: return text.length;
+            case 7: return clerk.text.length;
             default: return refuseAsBad(BAD);
         }
     }
@@ -612,7 +610,7 @@ public final class SidesChange {
     /** Both COUNSEL, the POINTS and how far they have come with them. */
     private static final class Court {
         final int[] counselKinds = new int[2];
-        final int[] bowsLeft = new int[2];
+        final int[] bowsLeft = {BOWS_FIRST, BOWS_FIRST};
         final int[] pointKinds = new int[POINTS_MOST];
         final int[] strengths = new int[POINTS_MOST];
         final int[] groundsLeft = new int[POINTS_MOST];
@@ -622,11 +620,7 @@ public final class SidesChange {
         /** Who sits in CHAIR 0. */
         int sitter;
         /** The POINT last SAID, while nobody objected to it; NONE else. */
-        int open;
-
-        Court() {
-            begin(0, 0);
-        }
+        int open = NONE;
 
         void begin(int one, int two) {
             counselKinds[0] = one;
@@ -949,19 +943,15 @@ public final class SidesChange {
         private BestPlay() {
         }
 
-        static int worth(Court court) {
-            return worthAtBow(court, -BEYOND, BEYOND, 0);
-        }
-
         static int whetherToBow(Court court) {
             if (!court.mayObject()) {
                 return NONE;
             }
             boolean zero = court.speaker() == 0;
-            int without = worthAtWord(court, -BEYOND, BEYOND, 0);
+            int without = worthUnbowed(court, -BEYOND, BEYOND, 0);
             long kept = court.keep();
             court.bow();
-            int with = worthAtWord(court, -BEYOND, BEYOND, 0);
+            int with = worthUnbowed(court, -BEYOND, BEYOND, 0);
             court.back(kept);
             return (zero ? with > without : with < without) ? 1 : 0;
         }
@@ -975,7 +965,7 @@ public final class SidesChange {
             for (int p = 0; p < POINTS_MOST; p++) {
                 if (has(unsaid, p)) {
                     court.speak(p);
-                    int worth = zero ? worthAtBow(court, best, BEYOND, 1) : worthAtBow(court, -BEYOND, best, 1);
+                    int worth = zero ? worth(court, best, BEYOND, 1) : worth(court, -BEYOND, best, 1);
                     court.back(kept);
                     if (zero ? worth > best : worth < best) {
                         best = worth;
@@ -987,8 +977,8 @@ public final class SidesChange {
         }
 
         /** What COUNSEL 0 gets, who may object choosing first. Beyond low and high it need only tell that it is. */
-        private static int worthAtBow(Court court, int low, int high, int depth) {
-            int without = worthAtWord(court, low, high, depth);
+        private static int worth(Court court, int low, int high, int depth) {
+            int without = worthUnbowed(court, low, high, depth);
             if (!court.mayObject()) {
                 return without;
             }
@@ -998,14 +988,14 @@ public final class SidesChange {
             }
             long kept = court.keep();
             court.bow();
-            int with = zero ? worthAtWord(court, Math.max(low, without), high, depth)
-                    : worthAtWord(court, low, Math.min(high, without), depth);
+            int with = zero ? worthUnbowed(court, Math.max(low, without), high, depth)
+                    : worthUnbowed(court, low, Math.min(high, without), depth);
             court.back(kept);
             return zero ? Math.max(with, without) : Math.min(with, without);
         }
 
         /** The same, no objection being made now. */
-        private static int worthAtWord(Court court, int low, int high, int depth) {
+        private static int worthUnbowed(Court court, int low, int high, int depth) {
             int unsaid = court.unsaid();
             if (unsaid == 0 || depth >= POINTS_MOST) {
                 return court.worthForCounselZero();
@@ -1018,7 +1008,7 @@ public final class SidesChange {
             for (int p = 0; p < POINTS_MOST && least < most; p++) {
                 if (has(unsaid, p)) {
                     court.speak(p);
-                    int worth = worthAtBow(court, least, most, depth + 1);
+                    int worth = worth(court, least, most, depth + 1);
                     court.back(kept);
                     best = zero ? Math.max(best, worth) : Math.min(best, worth);
                     least = zero ? Math.max(least, best) : least;
@@ -1221,13 +1211,9 @@ public final class SidesChange {
 
     /** Reads THE TEXT; where it stops at a FAULT, the TOKEN that is looked at is the one that can not stand there. */
     private static final class Clerk {
-        private final Text text;
-        private final Court court;
-
-        Clerk(Text text, Court court) {
-            this.text = text;
-            this.court = court;
-        }
+        final Text text = new Text();
+        /** What was read so far: a FAULT must leave all else as it was. */
+        final Court court = new Court();
 
         /** How many ITEMS; NONE: a FAULT. */
         int readAll() {
