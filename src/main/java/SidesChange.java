@@ -1217,7 +1217,6 @@ public final class SidesChange {
 
         /** How many ITEMS; NONE: a FAULT. */
         int readAll() {
-            court.begin(0, 0);
             text.rewind();
             text.next();
             int items = 0;

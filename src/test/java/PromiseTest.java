@@ -160,6 +160,12 @@ public final class PromiseTest {
             refused(x, "suit(0, " + kind + ")", x.suit(0, kind), SidesChange.BAD, before);
         }
         due("status(0)", x.status(0), 8);
+        x.suit(0, 0);
+        x.point(0, 5, 1);
+        x.says(0);
+        x.suit(0, 0);
+        x.point(0, 5, 1);
+        due("objects(), nothing SAID in this suit", x.objects(), SidesChange.NO);
         for (int kind = 0; kind <= 5; kind++) {
             x.suit(kind, 5 - kind);
             due("KIND of 0", x.about(0, 0), kind);
@@ -270,6 +276,8 @@ public final class PromiseTest {
         readsAs("case 0 0  ", -20);
         readsAs("cas", -10);
         readsAs(" cases 0 0;", -11);
+        readsAs("base 0 0;", -10);
+        readsAs("cast 0 0;", -10);
         readsAs("Case 0 0;", -10);
         readsAs("caSe 0 0;", -10);
         readsAs("case,0 0;", -14);
@@ -558,6 +566,13 @@ public final class PromiseTest {
         x.ends(5);
         x.undo();
         due("ENDS are not undone", x.count(3), 1);
+        SidesChange z = told(10, "case 0 0;bows 0 2;bows 1 3;point 0 4 0;point 0 5 1;say 0;");
+        z.says(1);
+        z.objects();
+        due("BOWS of 0", z.about(0, 1), 1);
+        due("undo()", z.undo(), 2);
+        due("BOWS of 0 behind undo()", z.about(0, 1), 2);
+        due("BOWS of 1 behind undo()", z.about(1, 1), 3);
         SidesChange y = told(10, "case 0 0;bows 0 3;bows 1 3;point 0 1 1;point 0 1 1;point 0 1 1;point 0 1 1;point 0 1 1;");
         for (int p = 0; p < 5; p++) {
             y.says(p);
@@ -730,6 +745,10 @@ public final class PromiseTest {
         due("what to say without the objection", v.play(2), 2);
         v.objects();
         due("what to say behind it", v.play(2), 1);
+        SidesChange u = told(15, "case 2 0;point 0 1 1;say 0;");
+        due("COUNSEL 1 neither, if alike", u.play(1), 0);
+        SidesChange t = told(15, "case 0 0;point 0 5 0;point 0 5 0;point 0 5 0;say 0;");
+        due("COUNSEL 1, too: of like ones the least", t.play(2), 1);
     }
 
     private static void proof() {
@@ -761,6 +780,9 @@ public final class PromiseTest {
         due("HANGED in CHAIR 1", z.proof(1), SidesChange.NONE);
         SidesChange w = told(16, "case 0 0;point 0 9 0;point 0 4 0;point 0 5 0;point 0 3 0;point 0 3 0;say 0;");
         due("two need a third between", w.proof(1), SidesChange.NONE);
+        // {0, 1, 2}: 3 - 2 + 1 - 3; {3}: 3 - 4: fewer, though not the lesser bits.
+        SidesChange v = told(16, "case 0 0;point 0 2 0;point 0 1 0;point 0 3 0;point 0 4 0;point 0 3 0;say 4;");
+        due("the fewest", v.proof(1), 8);
     }
 
     private static void ends() {
@@ -818,6 +840,14 @@ public final class PromiseTest {
         SidesChange y = told(18, "case 0 0;point 0 5 0;point 0 2 3;");
         due("only to what has GROUNDS", y.bowed(0), 2);
         due("in some", y.bowed(2), 2);
+        SidesChange z = told(18, "case 0 0;point 0 5 1;point 0 2 1;");
+        due("each, both, none", z.bowed(0), 4);
+        z.ends(3);
+        due("{}, {1}", z.bowed(0), 2);
+        z.forget(0);
+        z.ends(7);
+        due("{0}, {0, 1}: in all", z.bowed(1), 1);
+        due("{0}, {0, 1}: in some", z.bowed(2), 3);
     }
 
     private static void note() {
@@ -936,6 +966,10 @@ public final class PromiseTest {
         x.suit(0, 0);
         x.point(0, 2, 0);
         due("STRENGTH 2", x.look(0), lookOfTwo());
+        x.note(0, 1, 0, 0, 1);
+        due("all but OATH, STRENGTH 2: RUMOUR's by TURN 5", x.look(0), 500);
+        x.note(0, 1, -1, 0, 1);
+        due("PLAIN, HEARSAY, RUMOUR, COUGH, STRENGTH 2: TURN 3", x.look(0), 300);
         x.point(0, 4, 0);
         x.note(1, 2, 0, 0, 2);
         x.note(1, 2, 0, 2, 2);
@@ -1064,6 +1098,7 @@ public final class PromiseTest {
 
     private static void days() {
         SidesChange x = begin(28);
+        due("days(999999, 60)", x.days(999999, 60), 0);
         due("days(-1, 0)", x.days(-1, 0), SidesChange.BAD);
         due("days(1000000, 0)", x.days(1000000, 0), SidesChange.BAD);
         due("days(0, -1)", x.days(0, -1), SidesChange.BAD);
@@ -1141,8 +1176,17 @@ public final class PromiseTest {
         long kept = x.digest();
         due("from(0)", x.from(0), SidesChange.NO);
         x.suit(0, 0);
+        x.bows(0, 1);
         x.point(0, 1, 1);
+        x.point(0, 2, 1);
         x.ends(9);
+        x.ends(8);
+        x.note(0, 9, 8, 7, 6);
+        x.note(0, 9, 8, 7, 6);
+        x.mark(0, 9, 0, 6);
+        x.mark(0, 9, 0, 6);
+        x.says(1);
+        x.says(0);
         due("from(1)", x.from(1), 1);
         due("digest()", x.digest(), kept);
         due("MAY", x.now(4), 1);
