@@ -678,7 +678,7 @@ public final class SidesChange {
         }
 
         int speaker() {
-            return turn() & 1;
+            return Integer.bitCount(said) & 1;
         }
 
         int chairOf(int i) {
@@ -1127,7 +1127,7 @@ public final class SidesChange {
         static final int NUMBER = 2;
         static final int SEMICOLON = 3;
         static final int OTHER = 4;
-        private static final int BLANK = 32;
+        private static final int BLANK = 5;
 
         final int[] bytes = new int[TEXT_MOST];
         int length;
@@ -1152,48 +1152,47 @@ public final class SidesChange {
 
         void next() {
             start = end;
-            while (start < length && byteAt(start) == BLANK) {
+            while (start < length && kindAt(start) == BLANK) {
                 start++;
             }
-            end = start;
-            if (start >= length) {
-                token = END;
-            } else if (isLetter(start)) {
-                takeWord();
-            } else if (isFigure(start)) {
-                takeNumber();
-            } else {
-                token = byteAt(start) == ';' ? SEMICOLON : OTHER;
-                end = start + 1;
-            }
-        }
-
-        private void takeWord() {
-            while (end < length && isLetter(end)) {
+            token = kindAt(start);
+            end = token == END ? start : start + 1;
+            while (end < length && (token == WORD || token == NUMBER) && kindAt(end) == token) {
                 end++;
             }
-            token = WORD;
+            if (token == NUMBER) {
+                takeNumber();
+            }
         }
 
         private void takeNumber() {
-            value = 0;
-            while (end < length && isFigure(end)) {
-                value = end - start < 2 ? 10 * value + byteAt(end) - '0' : value;
-                end++;
+            if (end - start > 2) {
+                token = OTHER;
+                return;
             }
-            token = end - start <= 2 ? NUMBER : OTHER;
+            value = 0;
+            for (int at = start; at < end; at++) {
+                value = 10 * value + byteAt(at) - '0';
+            }
+        }
+
+        /** What a byte may be part of. */
+        private int kindAt(int at) {
+            if (at >= length) {
+                return END;
+            }
+            int c = byteAt(at);
+            if (c >= 'a' && c <= 'z') {
+                return WORD;
+            }
+            if (c >= '0' && c <= '9') {
+                return NUMBER;
+            }
+            return c == ';' ? SEMICOLON : c == ' ' ? BLANK : OTHER;
         }
 
         private int byteAt(int at) {
             return 0 <= at && at < length && at < TEXT_MOST ? bytes[at] : NONE;
-        }
-
-        private boolean isLetter(int at) {
-            return within('a', byteAt(at), 'z');
-        }
-
-        private boolean isFigure(int at) {
-            return within('0', byteAt(at), '9');
         }
 
         boolean tokenIs(String word) {
