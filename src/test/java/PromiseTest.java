@@ -45,6 +45,7 @@ public final class PromiseTest {
         part();
         image();
         from();
+        fullImage();
         status();
         count();
         digest();
@@ -1204,6 +1205,30 @@ public final class PromiseTest {
         x.says(2);
         x.from(1);
         due("the IMAGE is not changed by what goes on", x.of(2, 3), 0);
+    }
+
+    private static void fullImage() {
+        SidesChange x = told(31, "case 0 0;point 0 5 0;point 0 6 0;point 0 7 0;");
+        fill(x, 1);
+        x.image(0);
+        long kept = x.digest();
+        x.suit(0, 0);
+        x.point(1, 1, 1);
+        x.point(1, 1, 1);
+        x.point(1, 1, 1);
+        fill(x, 2);
+        due("another digest()", x.digest() == kept ? 1 : 0, 0);
+        due("from(0)", x.from(0), 1);
+        due("digest()", x.digest(), kept);
+    }
+
+    /** As many ENDS, NOTES and MARKS as there may be, each number told by how. */
+    private static void fill(SidesChange x, int how) {
+        for (int i = 0; i < 6; i++) {
+            x.ends(10 * how + i);
+            x.note(how, how + i, 10 * how + i, how + i % 3, 10 * how + i);
+            x.mark(how - 1, 10 * how + i, how - 1, 10 * how + i);
+        }
     }
 
     private static void status() {
