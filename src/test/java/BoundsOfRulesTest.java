@@ -17,6 +17,7 @@ public final class BoundsOfRulesTest {
         brother();
         mild();
         meritIsKept();
+        meritFarBelow();
         objecting();
         objectingCloses();
         verdict();
@@ -234,6 +235,28 @@ public final class BoundsOfRulesTest {
         }
         y.ends(99);
         twins.due("105 told as 99", y.bowed(0), 1);
+    }
+
+    /** The least that MERIT comes to by six POINTS: two FIERCE ones, each speaking for CHAIR 1 from TURN 1 on. */
+    private static void meritFarBelow() {
+        twins.sentence("MERIT of CHAIR 1: 0 less it");
+        SidesChange x = court(1, 1, 3, 3, p(0, 1, 0), p(4, 9, 1), p(4, 9, 1), p(4, 9, 1), p(4, 9, 1), p(4, 9, 1));
+        twins.due("says(0)", x.says(0), 3);
+        int[] due = {-19, -32, -45, -58, -71};
+        for (int p = 1; p <= 5; p++) {
+            twins.due("moves(" + p + ")", x.moves(p), p == 1 ? 22 : 13);
+            twins.due("says(" + p + ")", x.says(p), due[p - 1]);
+            twins.due("objects()", x.objects(), p % 2);
+        }
+        twins.due("now(0)", x.now(0), -71);
+        twins.due("play(0): COUNSEL 0 sits in CHAIR 1", x.play(0), 71);
+        for (int p = 5; p >= 2; p--) {
+            x.undo();
+            twins.due("MERIT behind undo()", x.now(0), due[p - 1]);
+            x.undo();
+            twins.due("MERIT behind undo()", x.now(0), due[p - 2]);
+        }
+        twins.due("undo() of a 9th", x.undo(), NO);
     }
 
     private static void objecting() {
