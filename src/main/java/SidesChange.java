@@ -545,7 +545,7 @@ public final class SidesChange {
         }
 
         private static int mild(int n) {
-            return Math.max(0, n - 1);
+            return n > 0 ? n - 1 : 0;
         }
 
         static int bestLook(int kinds, int g) {
